@@ -6,14 +6,16 @@ public final class AgainstPlainModelTest {
     private long seed;
     private final HangOrder x = new HangOrder();
     private final PlainModel model = new PlainModel();
-    private final int width;
-    private final int step;
+    private final int[] nodes;
 
     /** Nodes are 0, step, 2 * step, .. so that some runs stay narrow and some use all nodes. */
     private AgainstPlainModelTest(int run) {
         seed = run * 7919L + 1;
-        width = 3 + next(run % 3 == 0 ? 6 : 60);
-        step = run % 2 == 0 ? 1 : Check.LAST_NODE / width;
+        nodes = new int[3 + next(run % 3 == 0 ? 6 : 60)];
+        int step = run % 2 == 0 ? 1 : Check.LAST_NODE / nodes.length;
+        for (int k = 0; k < nodes.length; k++) {
+            nodes[k] = k * step;
+        }
     }
 
     public static void main(String[] args) {
@@ -34,7 +36,7 @@ public final class AgainstPlainModelTest {
     }
 
     private int node() {
-        return next(width) * step;
+        return nodes[next(nodes.length)];
     }
 
     private void change(String at, int linksInHundred) {
@@ -53,21 +55,6 @@ public final class AgainstPlainModelTest {
             }
             default -> Check.same(at + " work", x.work(), model.work());
         }
-        compareAll(at);
-    }
-
-    private void compareAll(String at) {
-        for (int k = 0; k < width; k++) {
-            int a = k * step;
-            Check.same(at + " ringed " + a, x.ringed(a), model.ringedThen.contains(a));
-            Check.same(at + " touched " + a, x.touched(a), model.touchedNow.contains(a));
-            Check.same(at + " readers " + a, x.links(a, 0), model.readers(a));
-            Check.same(at + " reads " + a, x.links(a, 1), model.readBy(a).size());
-        }
-        Check.same(at + " found", x.found(), model.foundThen);
-        for (int k = 0; k <= width; k++) {
-            int due = k < model.order.size() ? model.order.get(k) : HangOrder.NONE;
-            Check.same(at + " worked " + k, x.worked(k), due);
-        }
+        model.compare(at, x, nodes);
     }
 }

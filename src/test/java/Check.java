@@ -6,17 +6,26 @@ final class Check {
     }
 
     static final int LAST_NODE = 16383;
-    static final int[] NO_NODES = {-1, 16384, 16384 + 128, Integer.MIN_VALUE, Integer.MAX_VALUE};
+    /** Beside the nodes, both ends of int, and numbers that a mask would make a node of. */
+    static final int[] NO_NODES = {-1, 16384, Integer.MIN_VALUE, Integer.MAX_VALUE,
+        -2, -128, -16383, -16384, -16385, 16385, 16384 + 128, 32767, 32768, 65536, 1 << 24,
+        Integer.MIN_VALUE + 1, Integer.MAX_VALUE - 1, Integer.MIN_VALUE + LAST_NODE};
 
     private static int wrong;
+    private static String sentence = "";
 
     private Check() {
+    }
+
+    /** The document's words that the checks from here on are about; they are told with a fault. */
+    static void sentence(String words) {
+        sentence = "[" + words + "] ";
     }
 
     static void same(String what, long got, long want) {
         if (got != want) {
             wrong++;
-            System.out.println(what + " answered " + got + ", due is " + want);
+            System.out.println(sentence + what + " answered " + got + ", due is " + want);
         }
     }
 
@@ -56,7 +65,7 @@ final class Check {
         }
         if (!got.equals(due.getName())) {
             wrong++;
-            System.out.println(what + " threw " + got + ", due is " + due.getName());
+            System.out.println(sentence + what + " threw " + got + ", due is " + due.getName());
         }
     }
 }

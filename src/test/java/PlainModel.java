@@ -64,6 +64,21 @@ final class PlainModel {
         return reads.computeIfAbsent(a, key -> new TreeSet<>());
     }
 
+    /** The object answers the same as this model; all nodes that were named stand in the row. */
+    void compare(String at, HangOrder x, int[] nodes) {
+        for (int a : nodes) {
+            Check.same(at + " ringed " + a, x.ringed(a), ringedThen.contains(a));
+            Check.same(at + " touched " + a, x.touched(a), touchedNow.contains(a));
+            Check.same(at + " readers " + a, x.links(a, 0), readers(a));
+            Check.same(at + " reads " + a, x.links(a, 1), readBy(a).size());
+        }
+        Check.same(at + " found", x.found(), foundThen);
+        for (int k = 0; k <= nodes.length; k++) {
+            int due = k < order.size() ? order.get(k) : HangOrder.NONE;
+            Check.same(at + " worked " + k, x.worked(k), due);
+        }
+    }
+
     private int leastReady(TreeSet<Integer> due) {
         for (int node : due) {
             boolean isReady = true;
