@@ -49,7 +49,19 @@ public final class FaceTest {
                         publicNames.contains(method.getName()), false);
             }
         }
+        classesInside();
         Check.end();
+    }
+
+    private static void classesInside() {
+        Check.same("interfaces of the class", HangOrder.class.getInterfaces().length, 0);
+        Check.same("it extends Object alone", HangOrder.class.getSuperclass() == Object.class, true);
+        for (Class<?> inside : HangOrder.class.getDeclaredClasses()) {
+            int seen = inside.getModifiers() & (Modifier.PUBLIC | Modifier.PROTECTED);
+            Check.same(inside.getName() + " is public or protected", seen, 0);
+            Check.same(inside.getName() + " is static",
+                    Modifier.isStatic(inside.getModifiers()), true);
+        }
     }
 
     private static void addIfSeen(Set<String> seen, int modifiers, String member) {
